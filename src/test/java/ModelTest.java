@@ -902,6 +902,9 @@ public final class ModelTest {
         due("check()", x.check(), m.check());
     }
 
+    /** Runs in which 2,000 rows are made: few do, so they are taken by name. */
+    private static final int[] LONG_RUNS = {795, 1482, 1554, 3930, 5664};
+
     public static void main(String[] args) {
         int many = args.length > 0 ? Integer.parseInt(args[0]) : 250;
         for (int k = 1; k <= many && wrong < 5; k++) {
@@ -910,6 +913,7 @@ public final class ModelTest {
             if (k % 3 == 0) strategyRun(k);
             if (k % 3 == 0) lowRun(k);
         }
+        for (int k : LONG_RUNS) strategyRun(k);
         System.out.println(wrong == 0 ? "all answers are as the model's" : wrong + " runs are not as the model's");
         if (wrong != 0) System.exit(1);
     }
