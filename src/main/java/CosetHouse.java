@@ -713,10 +713,9 @@ public final class CosetHouse {
             }
             Word second = sums[depth];
             atom.clear();
-            boolean whole = atom.joinTurned(first) && atom.joinTurned(second)
-                && atom.joinWord(first) && atom.joinWord(second);
-            // A bracket's word is reckoned when it ends, so a power of 0 does not save a long one.
-            return whole && atom.length <= MOST_LONG || stop(LONG_FAULT, start);
+            // Beyond 40 letters is no fault here: it is the factor with its power that must be short.
+            return atom.joinTurned(first) && atom.joinTurned(second)
+                && atom.joinWord(first) && atom.joinWord(second) || stop(LONG_FAULT, start);
         }
 
         private boolean readMark(int mark) {

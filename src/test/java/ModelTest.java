@@ -85,11 +85,13 @@ public final class ModelTest {
                     List<Integer> second = word(open + 1);
                     if (now() != ']') throw new Fault(1, at);
                     atom = reduce(join(join(turned(atom), turned(second)), join(atom, second)));
-                    if (atom.size() > 40) throw new Fault(2, start);
                 }
                 at++;
             }
-            if (now() != '^') return atom;
+            if (now() != '^') {
+                if (atom.size() > 40) throw new Fault(2, start);
+                return atom;
+            }
             at++;
             boolean minus = now() == '-';
             if (minus) at++;
@@ -691,6 +693,13 @@ public final class ModelTest {
         return s.toString();
     }
 
+    /** About as many letters as a word may have, with a power that may take them all away. */
+    private static String wideCommutator() {
+        String power = pick(3) == 0 ? "" : "^" + (pick(3) == 0 ? "-" : "") + (pick(4) == 0 ? pick(130) : pick(3));
+        return (pick(2) == 0 ? text(1) : "") + "[" + plainText(3) + "a^" + (10 + pick(24)) + ","
+            + (pick(4) == 0 ? "b^" + pick(45) : plainText(4)) + "]" + power + (pick(2) == 0 ? text(1) : "");
+    }
+
     private static String plainText(int most) {
         StringBuilder s = new StringBuilder();
         int n = 1 + pick(most);
@@ -838,6 +847,7 @@ public final class ModelTest {
         due("letters(" + n + ")", bit(x.letters(n)), m.letters(n));
         for (int k = 0; k < 60 && !off; k++) {
             String text = pick(2) == 0 ? text(3) : spoiled(text(pick(2) == 0 ? 2 : 9));
+            if (pick(4) == 0) text = pick(3) == 0 ? spoiled(wideCommutator()) : wideCommutator();
             if (text.length() > 380) text = text.substring(0, 380);
             tell(text, pick(3));
             ask(10);
