@@ -38,6 +38,10 @@ public final class KeptBoundaryTest {
                 x.agreed("back()", x.back());
             });
         }
+        Consumer<Trial> begun = x -> { x.letters(2); x.begin(0, 6); x.keep(); };
+        t.leavesAll("row 0 is not DONE", begun, x -> { x.run(2); x.agreed("back()", x.back()); });
+        Consumer<Trial> done = x -> { x.letters(2); x.begin(0, 6); x.run(2); x.keep(); };
+        t.leavesAll("row 0 is DONE", done, x -> { x.begin(0, 6); x.step(); x.agreed("back()", x.back()); });
         Consumer<Trial> closed = x -> { x.melted(); x.keep(); };
         t.leavesAll("CLOSED", closed, x -> { x.rename(); x.pack(); x.agreed("back()", x.back()); });
         Consumer<Trial> spent = x -> { x.gap(0, 4); x.step(); x.keep(); };

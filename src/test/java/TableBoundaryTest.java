@@ -366,6 +366,21 @@ public final class TableBoundaryTest {
         t.cells("row 0", new int[] {0, 0});
     }
 
+    /** Where nothing melts, LOOK makes rows in the order in which RENAMED meets them. */
+    static void promise17_threeHundredRows(Trial t) {
+        Trial look = new Trial();
+        for (Trial x : new Trial[] {t, look}) {
+            x.letters(2);
+            x.words("[a,b]", "a^20", "b^15");
+            x.begin(x == look ? 1 : 2, 300);
+            x.agreed("CLOSED", x.run(2000), 1);
+        }
+        t.agreed("rename()", t.rename());
+        for (int r = 0; r < 300; r += 3)
+            for (int c = 0; c < 4; c++) t.due("cell(" + r + ", " + c + ")", t.cell(r, c), look.cell(r, c));
+        t.due("the last row", t.row(299), 299);
+    }
+
     // ---- 18: pack
 
     static void promise18_withoutATable(Trial t) {

@@ -413,6 +413,14 @@ public final class TermsBoundaryTest {
             t.due("row 1 melted", t.cell(1, 0), Trial.MELTED);
             t.due("row 2 melted", t.cell(2, 1), Trial.MELTED);
         }
+        t.letters(1);
+        t.word("a^2");
+        t.sub("a^5");
+        for (int s = 0; s < 5; s++) {
+            t.begin(s, 300);
+            t.agreed("CLOSED", t.run(2), 1);
+            t.abouts("of five rows one is left", 1, 5, 4, 5, 2, 0, 1);
+        }
     }
 
     static void term3_lookMoreThanOneIsLeft(Trial t) {
@@ -489,6 +497,11 @@ public final class TermsBoundaryTest {
         t.begin(1, 300);
         t.run(2);
         t.cells("a, then b, then c", new int[] {1, E, E, 1, E, 1}, new int[] {E, 0, 0, E, 0, E});
+        t.letters(2);
+        t.words("Ab", "a");
+        t.begin(1, 300);
+        t.agreed("behind a QUARREL, too", t.run(2), 1);
+        t.cells("Ab is LOOKED at again", new int[] {0, 0, 0, 0});
     }
 
     static void term3_closeSubwordsFromRow0(Trial t) {
@@ -624,6 +637,16 @@ public final class TermsBoundaryTest {
         t.abouts("seven rows", 2, 7, 5, 7, 1, 0, 1, 1, 2, 0);
     }
 
+    /** a^2, the SUBWORD behind the one at hand, makes all rows one. */
+    static void term3_smallClosesSubwordsToo(Trial t) {
+        t.subs("a^5", "a^2");
+        t.begin(4, 3);
+        t.agreed("the first STEP", t.step(), 1);
+        t.abouts("one row is left", 1, 3, 2, 3, 1, 0, 1, 1, 1, 0);
+        t.begin(0, 3);
+        t.agreed("FILL is SPENT", t.step(), 2);
+    }
+
     static void term3_smallGoesOnWhereThereIsPlaceAgain(Trial t) {
         t.letters(2);
         t.words("a^2");
@@ -655,8 +678,10 @@ public final class TermsBoundaryTest {
         t.agreed("SPENT", t.step(), 2);
         t.abouts("what melted in the first STEP counts", 4, 5, 1, 4, 2, 14, 2, 1, 4, 0);
         t.cells("numbers without a gap", new int[] {1, 3, E, 2, E, E});
+        t.gap(0, 300);
+        t.due("of this table one melted", t.about(2), 1);
         t.begin(4, 2);
-        t.agreed("of a new table none melted", t.step(), 2);
+        t.agreed("of the next one none did", t.step(), 2);
         t.due("PACKS", t.about(7), 0);
     }
 
@@ -790,6 +815,7 @@ public final class TermsBoundaryTest {
         t.cells("as made", new int[] {1, 6}, new int[] {2, 0}, new int[] {3, 1}, new int[] {4, 2}, new int[] {5, 3}, new int[] {6, 4}, new int[] {0, 5});
         t.agreed("rename()", t.rename());
         t.cells("as met", new int[] {1, 2}, new int[] {3, 0}, new int[] {0, 4}, new int[] {5, 1}, new int[] {2, 6}, new int[] {6, 3}, new int[] {4, 5});
+        for (int k = 0; k < 7; k++) t.due("row(" + k + ")", t.row(k), k);
     }
 
     // ---- IV: low

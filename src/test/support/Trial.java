@@ -276,6 +276,8 @@ final class Trial {
             s.append('/');
             for (int c = 0; cell(r, c) != NONE; c++) s.append(cell(r, c)).append(' ');
         }
+        s.append("/ rows");
+        for (int i = 0; i <= about(0); i++) s.append(' ').append(row(i));
         return s.toString();
     }
 
