@@ -44,6 +44,8 @@ public final class KeptBoundaryTest {
         t.leavesAll("row 0 is DONE", done, x -> { x.begin(0, 6); x.step(); x.agreed("back()", x.back()); });
         Consumer<Trial> closed = x -> { x.melted(); x.keep(); };
         t.leavesAll("CLOSED", closed, x -> { x.rename(); x.pack(); x.agreed("back()", x.back()); });
+        Consumer<Trial> ring = x -> { x.word("a^7"); x.begin(0, 300); x.run(2); x.keep(); };
+        t.leavesAll("CLOSED, ahead of rename()", ring, x -> { x.rename(); x.agreed("back()", x.back()); });
         Consumer<Trial> spent = x -> { x.gap(0, 4); x.step(); x.keep(); };
         t.leavesAll("SPENT", spent, x -> { x.begin(1, 300); x.run(9); x.agreed("back()", x.back()); });
     }

@@ -559,6 +559,17 @@ public final class TermsBoundaryTest {
         t.abouts("row 1 melted, and is not DONE", 1, 5, 4, 5, 3, 0, 1, 0, 5, 1);
     }
 
+    static void term3_fillTheLeastThatIsLeft(Trial t) {
+        t.gap(0, 300);
+        t.run(2);
+        t.due("rows 0 and 1 are DONE", t.about(9), 2);
+        t.due("row 3 is not", t.cell(3, 0), E);
+        t.step();
+        t.due("row 2 melted, row 3 is next", t.about(9), 3);
+        for (int c = 0; c < 6; c++) t.due("row 3, column " + c + " is full", t.cell(3, c) >= 0, true);
+        t.due("row 4 is not next", t.cell(4, 1), E);
+    }
+
     static void term3_lookTheFirstEmptyCell(Trial t) {
         t.letters(2);
         t.subs("a");
