@@ -135,6 +135,20 @@ public final class WordsBoundaryTest {
         }
     }
 
+    static void promise03_theTapeOutAndTheSheetStay(Trial t) {
+        t.letters(2);
+        t.ask("ba");
+        t.tell(2, 0);
+        t.told(new int[] {0, 0, 0, 0});
+        t.low(1);
+        t.tape("b");
+        t.agreed("letters(2)", t.letters(2));
+        t.spells("letters(2)", "ba");
+        t.due("THE SHEET", t.check(), Trial.RIGHT);
+        t.due("what low() found", t.size(0), 1);
+        t.agreed("the TAPE", t.word(20), 1);
+    }
+
     static void promise03_roomForAllWordsAgain(Trial t) {
         for (int n = 0; n < 2; n++) {
             t.letters(1);
