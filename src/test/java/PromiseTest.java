@@ -717,45 +717,18 @@ public final class PromiseTest {
         due("b", x.power(), 3);
         ask("abaB");
         due("[a,B]", x.power(), 5);
-        due("cycles of 2 .. 23", powerOfCycles(2, 3, 5, 7, 11, 13, 17, 19, 23), 223092870);
-        due("cycles of 2 .. 29, beyond", powerOfCycles(2, 3, 5, 7, 11, 13, 17, 19, 23, 29), 2147483647);
-        due("the greatest that is not", powerOfCycles(4, 9, 5, 7, 11, 13, 17, 19, 1), 232792560 / 4);
-    }
-
-    /**
-     * No few words of 40 letters tell a table in which a power is beyond, so a's column is written
-     * into a table from behind its back.
-     */
-    private static int powerOfCycles(int... lengths) {
-        x.letters(1);
-        x.begin(0, 300);
-        ask("a");
-        try {
-            Object table = field(x, "table").get(x);
-            int[] cells = (int[]) field(table, "cells").get(table);
-            int[] order = (int[]) field(table, "order").get(table);
-            int[] numbers = (int[]) field(table, "numbers").get(table);
-            int start = 0;
-            for (int length : lengths) {
-                for (int k = 0; k < length; k++) {
-                    order[start + k] = start + k;
-                    numbers[start + k] = start + k;
-                    cells[10 * (start + k)] = start + (k + 1) % length;
-                }
-                start += length;
-            }
-            field(table, "left").setInt(table, start);
-            field(table, "state").setInt(table, 1);
-        } catch (ReflectiveOperationException e) {
-            throw new IllegalStateException(e);
-        }
-        return x.power();
-    }
-
-    private static java.lang.reflect.Field field(Object of, String name) throws ReflectiveOperationException {
-        java.lang.reflect.Field found = of.getClass().getDeclaredField(name);
-        found.setAccessible(true);
-        return found;
+        fresh(22, 4, "a^2", "b^2", "c^2", "(ab)^2", "(bc)^3", "(ac)^7", "D abcac");
+        sub("cabcacabcabcacbcacbacacbacacbac");
+        sub("abcacabcabcabcbacacbacbacacba");
+        sub("acabcacabcacbcacacbacacbaca");
+        sub("cacabcacabcacbacacbacacbacb");
+        sub("cabcabcacbacacbacacaca");
+        x.begin(1, 300);
+        x.run(2000);
+        ask("d^3bd^7cDcd^2cd^4cd^3baDbDadcDcd^2aD");
+        due("ten digits", x.power(), 2128840560);
+        ask("badbd^3bd^3ad^6bcbdcdaDad^4");
+        due("2235105600 is beyond", x.power(), 2147483647);
     }
 
     private static void sixth(int number) {

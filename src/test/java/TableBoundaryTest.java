@@ -1,4 +1,5 @@
 import java.lang.reflect.Field;
+import java.math.BigInteger;
 import java.util.function.Consumer;
 
 /** Each boundary case that promises 10 to 27 name, by the promise. */
@@ -593,8 +594,66 @@ public final class TableBoundaryTest {
         t.due("all five", t.power(), 5);
     }
 
-    /** No run of calls is known that gets there: the cells of a's column are written from behind. */
+    private static final String UNDER = "d^3bd^7cDcd^2cd^4cd^3baDbDadcDcd^2aD";
+    private static final String OVER = "badbd^3bd^3ad^6bcbdcdaDad^4";
+    private static final String OVER_TWICE = "bdadbacd^7bcdcbcdad^2";
+
+    static void promise22_underTheBound(Trial t) {
+        t.surface(1);
+        t.due("index", t.index(), 252);
+        t.ask(UNDER);
+        t.due("power", t.power(), 2128840560);
+        t.due("power by going round", powerByLeads(t), "2128840560");
+    }
+
     static void promise22_beyond(Trial t) {
+        t.surface(1);
+        t.ask(OVER);
+        t.due("power", t.power(), Trial.MOST_INT);
+        t.due("power by going round", powerByLeads(t), "2235105600");
+    }
+
+    static void promise22_beyondTwice(Trial t) {
+        t.surface(1);
+        t.ask(OVER_TWICE);
+        t.due("power", t.power(), Trial.MOST_INT);
+        t.due("power by going round", powerByLeads(t), "4791568320");
+    }
+
+    static void promise22_beyondByOtherStrategies(Trial t) {
+        for (int strategy = 2; strategy < 5; strategy++) {
+            Trial x = new Trial();
+            x.surface(strategy);
+            x.due("strategy " + strategy + ": index", x.index(), 252);
+            x.ask(OVER);
+            x.due("strategy " + strategy + ": beyond", x.power(), Trial.MOST_INT);
+            x.ask(UNDER);
+            x.due("strategy " + strategy + ": not beyond", x.power(), 2128840560);
+        }
+    }
+
+    /** The least number that all cycles of THE WORD divide, whatever its size. */
+    private static String powerByLeads(Trial t) {
+        t.pack();
+        int rows = t.index();
+        int[] lead = new int[rows];
+        for (int r = 0; r < rows; r++) lead[r] = t.lead(r);
+        BigInteger all = BigInteger.ONE;
+        boolean[] seen = new boolean[rows];
+        for (int r = 0; r < rows; r++) {
+            int length = 0;
+            for (int at = r; !seen[at]; at = lead[at]) {
+                seen[at] = true;
+                length++;
+            }
+            BigInteger round = BigInteger.valueOf(Math.max(1, length));
+            all = all.multiply(round).divide(all.gcd(round));
+        }
+        return all.toString();
+    }
+
+    /** No run of calls is known that comes as near to the bound: the cells of a's column are written from behind. */
+    static void promise22_justBeyond(Trial t) {
         t.due("2 * 3 * .. * 23", powerOfCycles(2, 3, 5, 7, 11, 13, 17, 19, 23), 223092870);
         t.due("47 * 61 * 26 * 27 * 11 * 97", powerOfCycles(47, 61, 26, 27, 11, 97), 2147480478);
         t.due("59 * 23 * 15 * 34 * 29 * 107, beyond", powerOfCycles(59, 23, 15, 34, 29, 107), Trial.MOST_INT);

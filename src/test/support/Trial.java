@@ -352,6 +352,20 @@ final class Trial {
         run(2);
     }
 
+    /**
+     * A CLOSED table of 252 rows: the corners of triangles that cover a surface, seven about each point.
+     * Words turn them about almost as chance would, so that some have powers of ten digits; d is but a
+     * shorter way to tell such a word.
+     */
+    void surface(int strategy) {
+        letters(4);
+        words("a^2", "b^2", "c^2", "(ab)^2", "(bc)^3", "(ac)^7", "D abcac");
+        subs("cabcacabcabcacbcacbacacbacacbac", "abcacabcabcabcbacacbacbacacba", "acabcacabcacbcacacbacacbaca",
+            "cacabcacabcacbacacbacacbacb", "cabcabcacbacacbacacaca");
+        begin(strategy, 300);
+        run(2000);
+    }
+
     /** Rows 0, 1, 3 are left behind the first STEP: the second SUBWORD makes rows 1 and 2 one. */
     void gap(int strategy, int rows) {
         letters(3);
